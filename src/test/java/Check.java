@@ -9,35 +9,71 @@ final class Check {
     static final Class<?> BAD_STATE = IllegalStateException.class;
     static final Class<?> UNSUPPORTED = UnsupportedOperationException.class;
 
+    /** What thrownBy answers for a call that throws nothing. */
+    static final Object NOTHING = "nothing";
+
     private static int wrong = 0;
     private static int asked = 0;
+    private static String sentence = "";
 
     private Check() {
+    }
+
+    /** A sentence of the document, told with all that goes wrong in its test; a test must look at something. */
+    static void sentence(String words, Runnable test) {
+        sentence = words + " | ";
+        int before = asked;
+        try {
+            test.run();
+        } catch (RuntimeException e) {
+            tell("threw " + e);
+        }
+        if (asked == before) {
+            tell("nothing was looked at");
+        }
+        sentence = "";
     }
 
     static void same(String what, Object due, Object got) {
         asked++;
         if (!due.equals(got)) {
-            wrong++;
-            System.out.println(what + ": answered " + got + ", due is " + due);
+            tell(what + ": answered " + got + ", due is " + due);
         }
+    }
+
+    private static void tell(String what) {
+        wrong++;
+        System.out.println(sentence + what);
     }
 
     static Object thrownBy(ThreeCompactors x, Consumer<ThreeCompactors> call) {
         try {
             call.accept(x);
-            return "nothing";
+            return NOTHING;
         } catch (RuntimeException e) {
             return e.getClass();
         }
     }
 
-    /** The twin is made without the refused call, so that no object is asked more than 512 times. */
     static void refused(String what, Class<?> due, Consumer<ThreeCompactors> before, Consumer<ThreeCompactors> call) {
+        refusedBut(what, due, before, call, x -> { });
+    }
+
+    /**
+     * A refused call that leaves behind what another call does. The twin gets that other call instead of the
+     * refused one, so that no object is asked more than 512 times.
+     */
+    static void refusedBut(String what, Class<?> due, Consumer<ThreeCompactors> before,
+            Consumer<ThreeCompactors> call, Consumer<ThreeCompactors> left) {
         ThreeCompactors x = made(before);
         ThreeCompactors twin = made(before);
         same(what + " throws", due, thrownBy(x, call));
-        same(what + " changes nothing", picture(twin), picture(x));
+        left.accept(twin);
+        same(what + " leaves", picture(twin), picture(x));
+    }
+
+    static void accepted(String what, Consumer<ThreeCompactors> before, Consumer<ThreeCompactors> call) {
+        same(what + " throws", NOTHING, thrownBy(made(before), call));
     }
 
     static ThreeCompactors made(Consumer<ThreeCompactors> before) {
@@ -67,21 +103,42 @@ final class Check {
 
     /** The words from 0 to the top, as a text to compare with. */
     static String words(ThreeCompactors x) {
+        return words(x, 0, x.top());
+    }
+
+    static String words(ThreeCompactors x, int from, int to) {
         StringBuilder text = new StringBuilder();
-        for (int a = 0; a < x.top(); a++) {
-            text.append(a == 0 ? "" : " ").append(x.word(a));
+        for (int a = from; a < to; a++) {
+            text.append(a == from ? "" : " ").append(x.word(a));
         }
         return text.toString();
     }
 
     static String serials(ThreeCompactors x) {
         StringBuilder text = new StringBuilder();
+        int top = x.top();
         int a = 0;
-        while (a < x.top()) {
+        while (a < top) {
             text.append(a == 0 ? "" : " ").append(x.word(a + 1));
             a += (x.word(a) & 15) + 2;
         }
         return text.toString();
+    }
+
+    static String roots(ThreeCompactors x) {
+        StringBuilder text = new StringBuilder();
+        for (int r = 0; r < 8; r++) {
+            text.append(r == 0 ? "" : " ").append(x.serial(r)).append('@').append(x.address(r));
+        }
+        return text.toString();
+    }
+
+    static void zeroFromTheTopOn(String what, ThreeCompactors x) {
+        int sum = 0;
+        for (int a = x.top(); a < 256; a++) {
+            sum += x.word(a) == 0 ? 0 : 1;
+        }
+        same(what + ": words from the top on that are not 0", 0, sum);
     }
 
     static void end(String name) {
