@@ -1,3 +1,7 @@
+import java.util.ArrayList;
+import java.util.LinkedHashMap;
+import java.util.List;
+import java.util.Map;
 import java.util.NoSuchElementException;
 import java.util.function.Consumer;
 
@@ -84,21 +88,40 @@ final class Check {
 
     /** All that can be asked without a change, and the serial that the next object would get. */
     static String picture(ThreeCompactors x) {
-        StringBuilder text = new StringBuilder();
-        text.append("top ").append(x.top()).append(" objects ").append(x.objects()).append(" alive ").append(x.alive());
-        text.append(" roots");
+        return state(x).toString();
+    }
+
+    private static Map<String, Integer> state(ThreeCompactors x) {
+        Map<String, Integer> state = new LinkedHashMap<>();
+        state.put("top", x.top());
+        state.put("objects", x.objects());
+        state.put("alive", x.alive());
         for (int r = 0; r < 8; r++) {
-            text.append(' ').append(x.address(r));
+            state.put("root " + r, x.address(r));
         }
-        text.append(" words");
         for (int a = 0; a < 256; a++) {
-            text.append(' ').append(x.word(a));
+            state.put("word " + a, x.word(a));
         }
         for (int r = 0; r < 8; r++) {
             x.clear(r);
         }
-        text.append(" next ").append(x.claim(0, 0, 0));
-        return text.toString();
+        state.put("next", x.claim(0, 0, 0));
+        return state;
+    }
+
+    /** All that a call makes another than it was, in the order of state(): "root 3: -1 to 11, word 4: 8 to 5". */
+    static String changes(Consumer<ThreeCompactors> before, Consumer<ThreeCompactors> call) {
+        ThreeCompactors x = made(before);
+        call.accept(x);
+        Map<String, Integer> then = state(x);
+        List<String> changed = new ArrayList<>();
+        for (Map.Entry<String, Integer> was : state(made(before)).entrySet()) {
+            Integer is = then.get(was.getKey());
+            if (!is.equals(was.getValue())) {
+                changed.add(was.getKey() + ": " + was.getValue() + " to " + is);
+            }
+        }
+        return String.join(", ", changed);
     }
 
     /** The words from 0 to the top, as a text to compare with. */
